@@ -1,0 +1,61 @@
+import java.lang.reflect.InvocationTargetException;
+import java.lang.reflect.Method;
+import java.util.Arrays;
+import java.util.Comparator;
+import java.util.TreeSet;
+
+/** Runs every static method of the test classes whose name begins with "promise" or "whole". */
+public final class AllTests {
+    private static final int PROMISES = 59;
+    private static final Class<?>[] CLASSES = {
+        ChangesTest.class, TanksTest.class, PipesTest.class, ConnectionsTest.class, TotalsTest.class,
+        OutputTest.class, ScriptsTest.class, UndoTest.class, FaceTest.class, ComparisonTest.class};
+
+    private AllTests() {
+    }
+
+    public static void main(String[] args) throws IllegalAccessException {
+        int passed = 0;
+        int failed = 0;
+        TreeSet<Integer> missing = new TreeSet<>();
+        for (int promise = 1; promise <= PROMISES; promise++) {
+            missing.add(promise);
+        }
+        for (Class<?> tests : CLASSES) {
+            Method[] methods = tests.getDeclaredMethods();
+            Arrays.sort(methods, Comparator.comparing(Method::getName));
+            for (Method method : methods) {
+                if (!method.getName().matches("(promise|whole).*")) {
+                    continue;
+                }
+                missing.removeIf(promise -> method.getName().matches("promise" + promise + "(\\D.*)?"));
+                if (passes(method)) {
+                    passed++;
+                } else {
+                    failed++;
+                    System.out.println("FAILED: " + tests.getSimpleName() + "." + method.getName());
+                }
+            }
+        }
+        if (!missing.isEmpty()) {
+            failed++;
+            System.out.println("FAILED: no test for the promises " + missing);
+        }
+        System.out.println(passed + " passed, " + failed + " failed");
+        if (failed != 0) {
+            System.exit(1);
+        }
+    }
+
+    private static boolean passes(Method method) throws IllegalAccessException {
+        int before = Check.wrong();
+        try {
+            method.setAccessible(true);
+            method.invoke(null);
+        } catch (InvocationTargetException e) {
+            e.getCause().printStackTrace(System.out);
+            return false;
+        }
+        return Check.wrong() == before;
+    }
+}

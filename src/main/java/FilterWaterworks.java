@@ -525,10 +525,6 @@ public final class FilterWaterworks {
         }
         int exponent = 127;
         float rest = value;
-        while (rest >= 2.0f && exponent < 254) {
-            rest = rest / 2.0f;
-            exponent++;
-        }
         while (rest < 1.0f && exponent > 1) {
             rest = rest * 2.0f;
             exponent--;
@@ -1147,7 +1143,7 @@ public final class FilterWaterworks {
         }
     }
 
-    /** The script buffer, and the commands of the script that was read last. */
+    /** The script buffer, and the commands of the script that was read last; what they have no use for is free. */
     private static final class Script {
         final char[] text = new char[MOST_CHARACTERS];
         final int[] kinds = new int[MOST_COMMANDS];
@@ -1216,7 +1212,6 @@ public final class FilterWaterworks {
 
         /** Reads the whole script. If it does not have the form, position is the error position. */
         boolean read() {
-            Arrays.fill(arguments, 0);
             position = 0;
             commands = 0;
             while (commands < MOST_COMMANDS) {
@@ -1231,7 +1226,7 @@ public final class FilterWaterworks {
                     return false;
                 }
             }
-            // The shortest commands fill the buffer, so the end comes behind a last ";" here.
+            // So many of the shortest commands and a last ";" fill the buffer: the end comes too early.
             return false;
         }
 

@@ -4,7 +4,8 @@ import java.util.Random;
 final class ComparisonTest {
     private static final int RUNS = 600;
     private static final int CALLS = 512;
-    private static final String[] WORDS = {"tank ", "pipe ", "pour ", "draw ", "valve ", "leak ", "clean ", "wait", "wait "};
+    private static final String[] WORDS = {
+        "tank ", "pipe ", "pour ", "draw ", "valve ", "leak ", "clean ", "wait", "wait "};
 
     private final Random random;
     private final FilterWaterworks works = new FilterWaterworks();
@@ -44,7 +45,10 @@ final class ComparisonTest {
 
     /** Mostly a number from 0 to below the bound, now and then one outside. */
     private int index(int bound) {
-        return random.nextInt(25) == 0 ? new int[] {-1, bound, bound + 1, Integer.MIN_VALUE}[upTo(3)] : upTo(Math.max(0, bound - 1));
+        if (random.nextInt(25) != 0) {
+            return upTo(Math.max(0, bound - 1));
+        }
+        return new int[] {-1, bound, bound + 1, Integer.MIN_VALUE}[upTo(3)];
     }
 
     private int within(int least, int greatest) {

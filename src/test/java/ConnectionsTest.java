@@ -48,6 +48,7 @@ final class ConnectionsTest {
                 Check.due(first + " and " + second, due, works.areConnected(first, second));
             }
         }
+        Check.due("by the least setting of one pipe", true, ChangesTest.pair(9, 0, 0, 1).areConnected(1, 0));
         Check.due("clogged", false, clogged().areConnected(0, 1));
         needsTanks(FilterWaterworks::areConnected);
     }
@@ -97,12 +98,25 @@ final class ConnectionsTest {
         Check.due("clogged", 0, count.applyAsInt(clogged()));
     }
 
+    private static FilterWaterworks rowOfEight(int capacity) {
+        FilterWaterworks works = new FilterWaterworks();
+        for (int tank = 0; tank < 8; tank++) {
+            works.addTank(capacity);
+        }
+        for (int tank = 0; tank < 7; tank++) {
+            works.setValve(works.addPipe(tank, tank + 1, 0), 1);
+        }
+        return works;
+    }
+
     static void promise33() {
         bridges(FilterWaterworks::bridgeCount);
+        Check.due("the longest row", 7, rowOfEight(10).bridgeCount());
     }
 
     static void promise34() {
         bridges(FilterWaterworks::bridgeCountByLeavingOut);
+        Check.due("the longest row", 7, rowOfEight(10).bridgeCountByLeavingOut());
     }
 
     private static void widths(Call width) {
@@ -144,6 +158,9 @@ final class ConnectionsTest {
         works.setValve(more, 1);
         Check.due("two detours", 0, cleanest.of(works, 0, 3));
         Check.due("nothing has changed", 14, works.impurities(0));
+        works.setValve(more, 0);
+        works.setValve(detour, 0);
+        Check.due("no detour any more", 3, cleanest.of(works, 0, 3));
         FilterWaterworks clogged = clogged();
         Check.thrown("clogged", NoSuchElementException.class, () -> cleanest.of(clogged, 0, 1));
         Check.due("clogged, to itself", 8, cleanest.of(clogged, 0, 0));
@@ -152,12 +169,32 @@ final class ConnectionsTest {
         needsTanks(cleanest);
     }
 
+    /** A ring of eight tanks with a letter to each pipe, so that most sets come to most tanks. */
+    private static void cleanestOfMany(Call cleanest) {
+        FilterWaterworks works = new FilterWaterworks();
+        for (int tank = 0; tank < 8; tank++) {
+            works.addTank(100);
+        }
+        for (int pipe = 0; pipe < 12; pipe++) {
+            works.setValve(works.addPipe(pipe % 8, (pipe + 1) % 8, pipe < 8 ? 1 << pipe : 0), 1);
+        }
+        works.pour(0, 100, 255);
+        for (int tank = 0; tank < 8; tank++) {
+            Check.due("round the ring to " + tank, 0, cleanest.of(works, 0, tank));
+        }
+        works.setValve(7, 0);
+        works.setValve(3, 0);
+        Check.due("the ring is open, two letters stay", 2, cleanest.of(works, 0, 5));
+    }
+
     static void promise37() {
         cleanestWays(FilterWaterworks::cleanest);
+        cleanestOfMany(FilterWaterworks::cleanest);
     }
 
     static void promise38() {
         cleanestWays(FilterWaterworks::cleanestByPasses);
+        cleanestOfMany(FilterWaterworks::cleanestByPasses);
     }
 
     static void promise39() {
@@ -177,13 +214,7 @@ final class ConnectionsTest {
 
     /** Eight great tanks in a row with full ones at the one end need more than 300 minutes. */
     static void promise39TooLong() {
-        FilterWaterworks works = new FilterWaterworks();
-        for (int tank = 0; tank < 8; tank++) {
-            works.addTank(999);
-        }
-        for (int tank = 0; tank < 7; tank++) {
-            works.setValve(works.addPipe(tank, tank + 1, 0), 1);
-        }
+        FilterWaterworks works = rowOfEight(999);
         for (int tank = 0; tank < 4; tank++) {
             works.pour(tank, 999, 0);
         }

@@ -265,8 +265,9 @@ final class PlainWaterworks {
         int first = whole.tanks.get(pipe.first).content;
         int second = whole.tanks.get(pipe.second).content;
         Tank low = whole.tanks.get(first > second ? pipe.second : pipe.first);
+        int difference = Math.max(first, second) - Math.min(first, second);
         int litres = 0;
-        while (pipe.open() && litres < 5 * pipe.setting && 2 * (litres + 1) <= Math.max(first, second) - Math.min(first, second)
+        while (pipe.open() && litres < 5 * pipe.setting && 2 * (litres + 1) <= difference
                 && low.content + litres + 1 <= low.capacity) {
             litres++;
         }

@@ -59,7 +59,8 @@ final class ScriptsTest {
         FilterWaterworks works = ChangesTest.pair(100, 3, 3, 1);
         works.advance(2);
         long print = works.fingerprint();
-        Check.due("fails", "IllegalStateException", Check.run(works, "wait 2;leak 0 4;tank 20;draw 0 50;pipe 00/;wait"));
+        Object answer = Check.run(works, "wait 2;leak 0 4;tank 20;draw 0 50;pipe 00/;wait");
+        Check.due("fails", "IllegalStateException", answer);
         Check.due("command", 4, works.failedCommand());
         Check.due("state", print, works.fingerprint());
         Check.due("time", 2, works.time());
@@ -75,8 +76,8 @@ final class ScriptsTest {
 
     /** Each method's own exceptions make a command fail. */
     static void promise54EachFailure() {
-        String[] failing = {"tank 9", "tank 0", "pipe 02/", "pipe 20/", "pipe 11/", "pour 2 1/", "pour 0 0/", "pour 0 101/",
-            "draw 2 1", "draw 0 0", "draw 0 101", "valve 1 1", "valve 0 5", "leak 1 1", "valve 999 1",
+        String[] failing = {"tank 9", "tank 0", "pipe 02/", "pipe 20/", "pipe 11/",
+            "pour 2 1/", "pour 0 0/", "pour 0 101/", "draw 2 1", "draw 0 0", "draw 0 101", "valve 1 1", "valve 0 5", "leak 1 1", "valve 999 1",
             "clean 1", "wait 0", "wait 61", "wait 999"};
         for (String script : failing) {
             FilterWaterworks works = ChangesTest.pair(100, 3, 3, 1);
@@ -178,6 +179,18 @@ final class ScriptsTest {
         error("wait;wait;wait;wait;wait;wait;wait;wait;wait;wait;wait;wait;", 60);
         error("wait;wait;wait;wait;wait;wait;wait;wait;wait;wait;wait;tank ", 60);
         error("wait;wait;wait;wait;wait;wait;wait;wait;wait;wait;wait;wait~", 59);
+    }
+
+    /** What stood in the buffer before does not count any more. */
+    static void promise55ShorterScripts() {
+        FilterWaterworks works = new FilterWaterworks();
+        Check.due("long", 2, Check.run(works, "tank 100;wait 9"));
+        for (String begun : new String[] {"tan", "tank ", "tank 100;wai", "tank 100;wait "}) {
+            Check.due(begun, "IllegalArgumentException", Check.run(works, begun));
+            Check.due(begun, begun.length(), works.errorPosition());
+        }
+        Check.due("fewer digits", 1, Check.run(works, "tank 10"));
+        Check.due("capacity", 10, works.capacity(1));
     }
 
     static void promise55Latest() {

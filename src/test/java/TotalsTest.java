@@ -75,6 +75,18 @@ final class TotalsTest {
         }
     }
 
+    static void promise47SmallMeans() {
+        FilterWaterworks works = new FilterWaterworks();
+        for (int tank = 0; tank < 8; tank++) {
+            works.addTank(10);
+        }
+        Check.due("none", 0L, works.meanContentBits());
+        for (int litres = 1; litres <= 10; litres++) {
+            works.pour(0, 1, 0);
+            Check.due(litres + " litres", Double.doubleToLongBits(litres / 8.0), works.meanContentBits());
+        }
+    }
+
     static void promise48() {
         FilterWaterworks works = new FilterWaterworks();
         Check.due("nothing", 17L, works.fingerprint());
@@ -119,7 +131,7 @@ final class TotalsTest {
             Check.due("tanks", true, works.isConsistent());
         }
         for (int pipe = 0; pipe < 12; pipe++) {
-            works.addPipe(pipe % 8, (pipe * 3 + 1) % 8 == pipe % 8 ? (pipe + 5) % 8 : (pipe * 3 + 1) % 8, 37 * pipe % 256);
+            works.addPipe(pipe % 8, (pipe + 1 + pipe % 7) % 8, 37 * pipe % 256);
             works.setValve(pipe, pipe % 5);
             works.setLeak(pipe, pipe % 10);
             works.advance(3);

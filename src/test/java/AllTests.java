@@ -4,12 +4,15 @@ import java.util.Arrays;
 import java.util.Comparator;
 import java.util.TreeSet;
 
-/** Runs every static method of the test classes whose name begins with "promise" or "whole". */
+/** Runs every static method of the test classes whose name begins with "promise", "terms" or "whole". */
 public final class AllTests {
     private static final int PROMISES = 59;
-    private static final Class<?>[] CLASSES = {
+    static final Class<?>[] CLASSES = {
         ChangesTest.class, TanksTest.class, PipesTest.class, ConnectionsTest.class, TotalsTest.class,
-        OutputTest.class, ScriptsTest.class, UndoTest.class, FaceTest.class, ComparisonTest.class};
+        OutputTest.class, ScriptsTest.class, UndoTest.class,
+        TermsEdges.class, WaysTermsEdges.class, ScriptTermsEdges.class, ChangesEdges.class, TanksEdges.class, PipesEdges.class,
+        ConnectionsEdges.class, TotalsEdges.class, OutputEdges.class, ScriptsEdges.class, UndoEdges.class,
+        SentencesTest.class, FaceTest.class, ComparisonTest.class};
 
     private AllTests() {
     }
@@ -25,7 +28,7 @@ public final class AllTests {
             Method[] methods = tests.getDeclaredMethods();
             Arrays.sort(methods, Comparator.comparing(Method::getName));
             for (Method method : methods) {
-                if (!method.getName().matches("(promise|whole).*")) {
+                if (!method.getName().matches("(promise|terms|whole).*")) {
                     continue;
                 }
                 missing.removeIf(promise -> method.getName().matches("promise" + promise + "(\\D.*)?"));

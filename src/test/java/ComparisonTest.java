@@ -1,8 +1,8 @@
 import java.util.Random;
 
-/** Long runs of calls on the class and on PlainWaterworks, with a fixed seed: all answers are the same. */
+/** Runs of 512 calls on the class and on PlainWaterworks, with fixed seeds: all answers are the same. */
 final class ComparisonTest {
-    private static final int RUNS = 600;
+    private static final int RUNS = 4000;
     private static final int CALLS = 512;
     private static final String[] WORDS = {
         "tank ", "pipe ", "pour ", "draw ", "valve ", "leak ", "clean ", "wait", "wait "};
@@ -10,6 +10,7 @@ final class ComparisonTest {
     private final Random random;
     private final FilterWaterworks works = new FilterWaterworks();
     private final PlainWaterworks plain = new PlainWaterworks();
+    private int calls = 0;
 
     private ComparisonTest(long seed) {
         random = new Random(seed);
@@ -25,7 +26,10 @@ final class ComparisonTest {
     private void calls(int run) {
         // Runs of few changes keep states for long, the others go through many.
         int questions = 1 + run % 12;
-        for (int call = 0; call < CALLS; call++) {
+        if (run % 3 == 0) {
+            build(2 + upTo(6), 1 + upTo(11));
+        }
+        while (calls < CALLS) {
             int before = Check.wrong();
             if (random.nextInt(questions + 4) < 4) {
                 change();
@@ -33,9 +37,25 @@ final class ComparisonTest {
                 ask();
             }
             if (Check.wrong() != before) {
-                System.out.println("  in run " + run + ", call " + call);
+                System.out.println("  in run " + run + ", before call " + calls);
                 return;
             }
+        }
+    }
+
+    private void build(int tanks, int pipes) {
+        for (int tank = 0; tank < tanks; tank++) {
+            int capacity = 10 + upTo(200);
+            compare("addTank", () -> plain.addTank(capacity), () -> works.addTank(capacity));
+        }
+        for (int pipe = 0; pipe < pipes; pipe++) {
+            int index = pipe;
+            int first = upTo(tanks - 1);
+            int second = (first + 1 + upTo(tanks - 2)) % tanks;
+            int mesh = set() & 255;
+            int setting = upTo(4);
+            compare("addPipe", () -> plain.addPipe(first, second, mesh), () -> works.addPipe(first, second, mesh));
+            compare("setValve", () -> plain.setValve(index, setting), () -> works.setValve(index, setting));
         }
     }
 
@@ -72,7 +92,12 @@ final class ComparisonTest {
         return within(0, 255) & (random.nextBoolean() ? -1 : within(0, 255));
     }
 
+    /** An object is used for at most 512 calls. */
     private void compare(String what, Check.Call want, Check.Call got) {
+        if (calls == CALLS) {
+            return;
+        }
+        calls++;
         Check.due(what, Check.outcome(want), Check.outcome(got));
     }
 

@@ -3,8 +3,6 @@ import java.lang.reflect.Constructor;
 import java.lang.reflect.Field;
 import java.lang.reflect.Method;
 import java.lang.reflect.Modifier;
-import java.nio.file.Files;
-import java.nio.file.Path;
 import java.util.ArrayList;
 import java.util.Arrays;
 import java.util.HashSet;
@@ -19,14 +17,10 @@ final class FaceTest {
     private FaceTest() {
     }
 
-    private static String document() throws IOException {
-        return Files.readString(Path.of(System.getProperty("shared", "../shared"), "DOC.md"));
-    }
-
     private static Set<String> facesOfTheDocument() throws IOException {
         Set<String> faces = new TreeSet<>();
         Pattern form = Pattern.compile("    public (\\w+) (\\w+)\\(([^)]*)\\)(?: throws ([^;]*))?;");
-        Matcher matcher = form.matcher(document());
+        Matcher matcher = form.matcher(SentencesTest.document());
         while (matcher.find()) {
             List<String> types = new ArrayList<>();
             for (String parameter : matcher.group(3).split(", ")) {

@@ -93,7 +93,7 @@ final class TanksTest {
         for (int capacity = 10; capacity <= 999; capacity += 43) {
             FilterWaterworks works = new FilterWaterworks();
             works.addTank(capacity);
-            for (int content = 0; content <= capacity && content < 400; content++) {
+            for (int content = 0; content <= capacity && content < 250; content++) {
                 int due = Float.floatToIntBits((float) content / (float) capacity);
                 Check.due(content + " of " + capacity, due, works.fillShareBits(0));
                 if (content < capacity) {

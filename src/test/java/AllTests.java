@@ -7,17 +7,37 @@ import java.util.TreeSet;
 /** Runs every static method of the test classes whose name begins with "promise", "terms" or "whole". */
 public final class AllTests {
     private static final int PROMISES = 59;
+    private static final int MOST_SECONDS = 300;
     static final Class<?>[] CLASSES = {
         ChangesTest.class, TanksTest.class, PipesTest.class, ConnectionsTest.class, TotalsTest.class,
         OutputTest.class, ScriptsTest.class, UndoTest.class,
-        TermsEdges.class, WaysTermsEdges.class, ScriptTermsEdges.class, ChangesEdges.class, TanksEdges.class, PipesEdges.class,
-        ConnectionsEdges.class, TotalsEdges.class, OutputEdges.class, ScriptsEdges.class, UndoEdges.class,
+        TermsEdges.class, WaysTermsEdges.class, ScriptTermsEdges.class,
+        ChangesEdges.class, TanksEdges.class, PipesEdges.class, ConnectionsEdges.class, TotalsEdges.class,
+        OutputEdges.class, ScriptsEdges.class, UndoEdges.class,
         SentencesTest.class, FaceTest.class, ComparisonTest.class};
+
+    private static volatile String running = "";
 
     private AllTests() {
     }
 
+    /** A call that never ends fails its test, and does not hold the run up. */
+    private static void watch() {
+        Thread watch = new Thread(() -> {
+            try {
+                Thread.sleep(MOST_SECONDS * 1000L);
+            } catch (InterruptedException e) {
+                return;
+            }
+            System.out.println("FAILED: " + running + " did not end");
+            Runtime.getRuntime().halt(1);
+        });
+        watch.setDaemon(true);
+        watch.start();
+    }
+
     public static void main(String[] args) throws IllegalAccessException {
+        watch();
         int passed = 0;
         int failed = 0;
         TreeSet<Integer> missing = new TreeSet<>();
@@ -31,12 +51,13 @@ public final class AllTests {
                 if (!method.getName().matches("(promise|terms|whole).*")) {
                     continue;
                 }
+                running = tests.getSimpleName() + "." + method.getName();
                 missing.removeIf(promise -> method.getName().matches("promise" + promise + "(\\D.*)?"));
                 if (passes(method)) {
                     passed++;
                 } else {
                     failed++;
-                    System.out.println("FAILED: " + tests.getSimpleName() + "." + method.getName());
+                    System.out.println("FAILED: " + running);
                 }
             }
         }
@@ -51,7 +72,7 @@ public final class AllTests {
     }
 
     private static boolean passes(Method method) throws IllegalAccessException {
-        int before = Check.wrong();
+        int before = Check.begin();
         try {
             method.setAccessible(true);
             method.invoke(null);

@@ -1,6 +1,9 @@
 /** Compares answers with those that are due, and counts the wrong ones. */
 final class Check {
+    private static final int MOST_PRINTED = 20;
+
     private static int wrong = 0;
+    private static int printed = 0;
 
     private Check() {
     }
@@ -13,9 +16,18 @@ final class Check {
         return wrong;
     }
 
+    /** A new test begins, of whose wrong answers the first ones are printed; answers how many were wrong before. */
+    static int begin() {
+        printed = 0;
+        return wrong;
+    }
+
     private static void fail(String message) {
         wrong++;
-        System.out.println("  wrong: " + message);
+        printed++;
+        if (printed <= MOST_PRINTED) {
+            System.out.println("  wrong: " + message);
+        }
     }
 
     static void due(String what, Object want, Object got) {

@@ -216,6 +216,12 @@ final class ConnectionsEdges {
             Check.due(letter + 1 + " filters", 7 - letter, cleanest.of(works, 0, 1));
             Check.due(letter + 1 + " filters and back", 7 - letter, cleanest.of(works, 0, 0));
         }
+        for (int letter = 0; letter < 7; letter++) {
+            works.setValve(letter, 0);
+            Check.due("without " + (letter + 1) + " of them", letter + 1, cleanest.of(works, 0, 1));
+        }
+        works.setValve(7, 0);
+        Check.due("without all of them", 8, cleanest.of(works, 0, 0));
     }
 
     private static final String TO = "`to`: the index of the other tank, which may be the same";
@@ -254,16 +260,24 @@ final class ConnectionsEdges {
         cleanestOfAllSets(FilterWaterworks::cleanestByPasses);
     }
 
-    /** Pipes in the order in which each pass reaches only one tank more. */
+    /** Pipes in the order in which each pass reaches only one tank more, and a filter at the far end. */
     @Sentence(promise = 38, value = PASSES)
     static void promise38UntilNothingNewIsReached() {
-        FilterWaterworks works = Edges.tanks(8);
-        works.pour(0, 1, 255);
-        for (int pipe = 0; pipe < 7; pipe++) {
-            works.setValve(works.addPipe(7 - pipe, 6 - pipe, 1 << pipe), 1);
+        for (int farEnd = 0; farEnd <= 1; farEnd++) {
+            for (int start = 0; start <= 7; start += 7) {
+                FilterWaterworks works = Edges.tanks(8);
+                works.pour(start, 1, 255);
+                for (int step = 6; step >= 0; step--) {
+                    int near = start == 0 ? step : 7 - step;
+                    int far = start == 0 ? step + 1 : 6 - step;
+                    int mesh = step == 6 ? 0b1111 : 0;
+                    int pipe = farEnd == 0 ? works.addPipe(near, far, mesh) : works.addPipe(far, near, mesh);
+                    works.setValve(pipe, 1);
+                }
+                Check.due("to the last tank", 4, works.cleanestByPasses(start, 7 - start));
+                Check.due("and back", 4, works.cleanestByPasses(start, start));
+            }
         }
-        Check.due("to the last tank", 1, works.cleanestByPasses(0, 7));
-        Check.due("and back", 1, works.cleanestByPasses(0, 0));
     }
 
     @Sentence(promise = 38, value = Edges.NO_TANKS)

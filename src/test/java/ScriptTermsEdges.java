@@ -416,6 +416,21 @@ final class ScriptTermsEdges {
         error("wa;wait", 2);
     }
 
+    /** What would be right behind a whole word is wrong behind the beginning of one. */
+    @Sentence(POSITION)
+    static void termsArgumentsBehindHalfAWord() {
+        error("1", 0);
+        error("10/", 0);
+        error("t10", 1);
+        error("tan10", 3);
+        error("pi01/", 2);
+        error("valv0 1", 4);
+        error("clea0", 4);
+        error("wai10", 3);
+        error("wai 10", 3);
+        error("wait;9", 5);
+    }
+
     // ---- changes ----
 
     private static final String CHANGE = "A change is a call of addTank, addPipe, pour, draw, setValve, setLeak,"
@@ -477,6 +492,50 @@ final class ScriptTermsEdges {
         counts("isConsistent", 2, FilterWaterworks::isConsistent);
         counts("cleanest", 2, works -> works.cleanest(0, 0));
         counts("undo", 1, FilterWaterworks::undo);
+    }
+
+    @Sentence(CHANGE)
+    static void termsQuestionsChangeNothing() {
+        FilterWaterworks works = Edges.busy();
+        for (int index = 0; index < 3; index++) {
+            works.capacity(index);
+            works.content(index);
+            works.impurities(index);
+            works.hasImpurity(index, 'a');
+            works.tankByContent(index);
+            works.fillShare(index);
+            works.fillShareBits(index);
+            works.firstOf(index);
+            works.secondOf(index);
+            works.valve(index);
+            works.leak(index);
+            works.mesh(index);
+            works.dirt(index);
+            works.isOpen(index);
+            works.flow(index);
+            works.litresThrough(index);
+            works.pipeByDirt(index);
+            works.isBridge(index);
+            works.outputAt(index);
+        }
+        works.areConnected(0, 2);
+        works.width(0, 2);
+        works.widthBySettings(0, 2);
+        works.cleanest(1, 2);
+        works.cleanestByPasses(1, 2);
+        works.groupCount();
+        works.groupCountByUnions();
+        works.bridgeCount();
+        works.bridgeCountByLeavingOut();
+        works.minutesUntilStill();
+        works.totalContent();
+        works.totalContentByAccounts();
+        works.meanContent();
+        works.meanContentBits();
+        works.isConsistent();
+        works.errorPosition();
+        works.failedCommand();
+        Check.due("everything", Edges.everything(Edges.busy()), Edges.everything(works));
     }
 
     private static final String LATEST_8 = "The latest 8 changes can be undone, the latest one first.";

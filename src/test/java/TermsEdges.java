@@ -275,11 +275,11 @@ final class TermsEdges {
 
     @Sentence(VISITS)
     static void termsOrderOfTheVisits() {
-        Check.due("on in the same minute", "60 10 10", afterAMinute(0, 1));
-        Check.due("on in the next minute", "60 20 0", afterAMinute(1, 0));
+        Check.due("on in the same minute", "60 10 10, 1 1 1", afterAMinute(0, 1));
+        Check.due("on in the next minute", "60 20 0, 1 1 0", afterAMinute(1, 0));
     }
 
-    /** Of the tanks 0, 1 and 2 in a row, with 80 litres in tank 0, when the pipes are added in an order. */
+    /** Contents and impurities of three tanks in a row, with water in tank 0, when the pipes are added in an order. */
     private static String afterAMinute(int first, int second) {
         FilterWaterworks works = Edges.tanks(3);
         works.draw(1, 50);
@@ -290,7 +290,8 @@ final class TermsEdges {
         works.setValve(0, 4);
         works.setValve(1, 4);
         works.advance(1);
-        return works.content(0) + " " + works.content(1) + " " + works.content(2);
+        return works.content(0) + " " + works.content(1) + " " + works.content(2) + ", "
+                + works.impurities(0) + " " + works.impurities(1) + " " + works.impurities(2);
     }
 
     private static final String WATER = "If a pipe is open, water flows through it from the tank with the greater content"
@@ -327,6 +328,27 @@ final class TermsEdges {
                 works.pour(1, 100 - room, 0);
                 flows(works, Math.min(room, 5 * setting));
             }
+        }
+    }
+
+    /** What would be spilled on the way counts as well: it must fit. */
+    @Sentence(WATER)
+    static void termsALeakDoesNotLetMoreFit() {
+        for (int room = 0; room <= 25; room++) {
+            FilterWaterworks works = new FilterWaterworks();
+            works.addTank(100);
+            works.addTank(999);
+            works.addPipe(0, 1, 255);
+            works.setValve(0, 4);
+            works.setLeak(0, 9);
+            works.pour(0, 100 - room, 0);
+            works.pour(1, 999, 1);
+            int litres = Math.min(20, room);
+            Check.due("flow, room " + room, -litres, works.flow(0));
+            Check.due("spilled, room " + room, Math.min(9, litres), works.advance(1));
+            Check.due("left, room " + room, 999 - litres, works.content(1));
+            Check.due("came, room " + room, 100 - room + litres - Math.min(9, litres), works.content(0));
+            Check.due("dirt, room " + room, Math.min(1, litres), works.dirt(0));
         }
     }
 
@@ -423,6 +445,8 @@ final class TermsEdges {
         works.advance(1);
         Check.due("its own and the new one", 0b1110, works.impurities(1));
         Check.due("nothing comes back", 0b0011, works.impurities(0));
+        works.advance(1);
+        Check.due("what comes again is there already", 0b1110, works.impurities(1));
     }
 
     private static final String DIRT = "The dirt of the filter increases by the number of impurities of the tank that the"

@@ -139,7 +139,8 @@ final class ChangesEdges {
         }
     }
 
-    @Sentence(promise = 4, value = "Throws `UnsupportedOperationException` if the content would be greater than the capacity")
+    @Sentence(promise = 4, value = "Throws `UnsupportedOperationException` if the content would be greater than the"
+            + " capacity")
     static void promise4Capacity() {
         for (int capacity : new int[] {10, 500, 999}) {
             for (int content : new int[] {0, 1, capacity - 1}) {

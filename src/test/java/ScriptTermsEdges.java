@@ -347,7 +347,8 @@ final class ScriptTermsEdges {
     @Sentence(ALL_OR_NONE)
     static void termsCommandsInOrder() {
         FilterWaterworks works = new FilterWaterworks();
-        Check.due("each one needs those before it", 6, Check.run(works, "tank 20;tank 10;pipe 01/a;pour 0 20/a;valve 0 1;wait 2"));
+        String script = "tank 20;tank 10;pipe 01/a;pour 0 20/a;valve 0 1;wait 2";
+        Check.due("each one needs those before it", 6, Check.run(works, script));
         Check.due("effect", "0:0-1v1d2*", Check.pipe(works, 0));
         Check.due("content", 10, works.content(1));
         Check.due("later ones win", 2, Check.run(works, "valve 0 2;valve 0 3"));
@@ -356,7 +357,8 @@ final class ScriptTermsEdges {
 
     @Sentence(ALL_OR_NONE)
     static void termsNoneIfOneFails() {
-        String[] scripts = {"tank 9", "valve 0 4;tank 9", "tank 9;valve 0 4", "wait;wait;wait;wait;wait;wait;wait;wait;wait;tank 9",
+        String[] scripts = {"tank 9", "valve 0 4;tank 9", "tank 9;valve 0 4",
+            "wait;wait;wait;wait;wait;wait;wait;wait;wait;tank 9",
             "leak 0 9;clean 0;draw 0 9;pour 1 1/h;pipe 10/;wait 9;tank 9"};
         int[] failed = {0, 1, 0, 9, 6};
         for (int i = 0; i < scripts.length; i++) {

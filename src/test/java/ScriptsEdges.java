@@ -94,7 +94,8 @@ final class ScriptsEdges {
 
     @Sentence(promise = 54, value = NO_FORM)
     static void promise54WithoutTheForm() {
-        String[] scripts = {"", "w", "wait;", "wait;tank", "tank 1000", "pipe 01", "wait;wait;wait;wait;wait;wait;wait;wait;x"};
+        String[] scripts = {"", "w", "wait;", "wait;tank", "tank 1000", "pipe 01",
+            "wait;wait;wait;wait;wait;wait;wait;wait;x"};
         int[] positions = {0, 1, 5, 9, 8, 7, 40};
         for (int i = 0; i < scripts.length; i++) {
             FilterWaterworks works = Edges.busy();
@@ -233,7 +234,8 @@ final class ScriptsEdges {
         Edges.refused("no script", Edges.ELEMENT, () -> Edges.tanks(2), FilterWaterworks::failedCommand);
     }
 
-    @Sentence(promise = 56, value = "Returns the index of the command that failed in the latest script with a failed command.")
+    @Sentence(promise = 56, value = "Returns the index of the command that failed in the latest script with a failed"
+            + " command.")
     static void promise56LatestScript() {
         FilterWaterworks works = new FilterWaterworks();
         Check.run(works, "wait;wait;wait;wait;wait;wait;wait;wait;wait;wait;wait 0");

@@ -77,7 +77,8 @@ final class ScriptsTest {
     /** Each method's own exceptions make a command fail. */
     static void promise54EachFailure() {
         String[] failing = {"tank 9", "tank 0", "pipe 02/", "pipe 20/", "pipe 11/",
-            "pour 2 1/", "pour 0 0/", "pour 0 101/", "draw 2 1", "draw 0 0", "draw 0 101", "valve 1 1", "valve 0 5", "leak 1 1", "valve 999 1",
+            "pour 2 1/", "pour 0 0/", "pour 0 101/", "draw 2 1", "draw 0 0", "draw 0 101",
+            "valve 1 1", "valve 0 5", "leak 1 1", "valve 999 1",
             "clean 1", "wait 0", "wait 61", "wait 999"};
         for (String script : failing) {
             FilterWaterworks works = ChangesTest.pair(100, 3, 3, 1);

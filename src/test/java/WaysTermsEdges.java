@@ -247,7 +247,8 @@ final class WaysTermsEdges {
             int set = (1 << letters) - 1;
             cleanest("no filter", Edges.pair(9, set, 0, 1), 0, 1, letters);
             cleanest("a filter of all", Edges.pair(9, set, 255, 1), 0, 1, 0);
-            cleanest("a filter of 'a' and 'h'", Edges.pair(9, set, 129, 1), 0, 1, letters == 0 ? 0 : Math.min(letters - 1, 6));
+            int left = letters == 0 ? 0 : Math.min(letters - 1, 6);
+            cleanest("a filter of 'a' and 'h'", Edges.pair(9, set, 129, 1), 0, 1, left);
         }
     }
 

@@ -14,7 +14,7 @@ public final class AllTests {
         TermsEdges.class, WaysTermsEdges.class, ScriptTermsEdges.class,
         ChangesEdges.class, TanksEdges.class, PipesEdges.class, ConnectionsEdges.class, TotalsEdges.class,
         OutputEdges.class, ScriptsEdges.class, UndoEdges.class,
-        SentencesTest.class, FaceTest.class, ComparisonTest.class};
+        SentencesTest.class, FaceTest.class, ReadmeTest.class, ComparisonTest.class};
 
     private static volatile String running = "";
 
